@@ -51,11 +51,12 @@ public final class WholeTest {
     private static void draws() {
         UncrossedBook x = new UncrossedBook();
         Due.is("32: one", x.draws(1), 1);
-        // 1 becomes 1103527590, whose upper 16 bits are 16838, and so on.
-        Due.are("32: the first", new long[] {x.orderOf(0, 1), x.orderOf(0, 2), x.orderOf(0, 3),
-            x.orderOf(0, 5)}, 16838 % 8, 5758 % 2 + (0), draw(after(after(after(1))), 20) + 1,
-            draw(after(after(after(after(1)))), 21) + 490);
-        Due.is("32: the seed after one draw", after(1), 1103527590);
+        // The upper 16 bits of the SEEDS from 1 on: 16838, 38526, 10113, 50283.
+        Due.is("32: owner, 16838 modulo 8", x.orderOf(0, 1), 6);
+        Due.is("32: side, 38526 modulo 2", x.orderOf(0, 2), 0);
+        Due.is("32: quantity, 10113 modulo 20, and 1", x.orderOf(0, 3), 14);
+        Due.is("32: price, 50283 modulo 21, and 490", x.orderOf(0, 5), 499);
+        Due.is("32: the seed", x.status(6), -999580867);
         drawsFrom(1);
         drawsFrom(0);
         drawsFrom(-1);
