@@ -16,6 +16,7 @@ public final class ChangeTest {
         rule();
         uncross();
         uncrossHidden();
+        uncrossHiddenSells();
         uncrossOwn();
         uncrossPegged();
         uncrossStops();
@@ -228,6 +229,29 @@ public final class ChangeTest {
         Due.are("19: what is left, if less", Books.order(x, 0), 3, Books.RESTING, 500, 3, 17);
     }
 
+    private static void uncrossHiddenSells() {
+        UncrossedBook x = new UncrossedBook();
+        x.hidden(0, 1, 20, 500, 4);
+        x.hidden(0, 1, 20, 501, 4);
+        x.limit(1, 0, 9, 501, 0);
+        x.limit(2, 0, 1, 500, 0);
+        Due.is("19: volume", x.uncross(), 10);
+        Due.are("19: to the last one", Books.trade(x, 1), 3, 0, 500, 1);
+        Due.are("19: visible anew", Books.order(x, 0), 10, Books.RESTING, 500, 4, 10);
+        x.market(3, 0, 3);
+        x.close();
+        x.limit(1, 0, 9, 500, 0);
+        Due.is("19: all of it", x.uncross(), 7);
+        Due.are("19: filled", Books.order(x, 0), 0, Books.FILLED, 500, 0, 20);
+        x = Books.opened();
+        x.hidden(0, 1, 20, 500, 4);
+        x.market(1, 0, 3);
+        x.close();
+        x.limit(1, 0, 1, 500, 0);
+        x.uncross();
+        Due.are("19: a sell, visible anew", Books.order(x, 0), 16, Books.RESTING, 500, 4, 4);
+    }
+
     private static void uncrossOwn() {
         UncrossedBook x = new UncrossedBook();
         x.rule(1);
@@ -278,6 +302,9 @@ public final class ChangeTest {
         Due.is("19: least difference", priceOf(0, "a+5@700;a+4@600;b-5@300"), 601);
         Due.is("19: least difference", priceOf(0, "a+5@400;b-5@300;b-4@200;a+4@300"), 300);
         Due.is("19: least difference, sells", priceOf(0, "a+5@400;b-5@100;b-4@200"), 199);
+        Due.is("19: least difference, of several", priceOf(0, "a+5@400;a+1@390;a+2@380;b-5@100"), 400);
+        Due.is("19: least difference, yet some", priceOf(0, "a+7@400;a+1@390;b-5@100"), 400);
+        Due.is("19: of volume 1", priceOf(0, "a+1@400;a+1@350;b-1@100"), 400);
         Due.is("19: nearest to 500", priceOf(0, "a+5@700;b-5@300"), 500);
         Due.is("19: nearest to 500, above", priceOf(0, "a+5@900;b-5@600"), 600);
         Due.is("19: nearest to 500, below", priceOf(0, "a+5@300;b-5@100"), 300);

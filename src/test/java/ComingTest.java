@@ -11,6 +11,8 @@ public final class ComingTest {
         now();
         all();
         allCounts();
+        allOfOthers();
+        longest();
         hidden();
         hiddenComesRound();
         hiddenRefusals();
@@ -72,6 +74,9 @@ public final class ComingTest {
         Due.are("9: filled", Books.order(x, 3), 0, Books.FILLED, 499, 0, 7);
         Due.are("9: partly", Books.order(x, 0), 3, Books.RESTING, 499, 3, 2);
         Due.is("9: below the limit stays", x.orderOf(2, Books.LEFT), 5);
+        x.limit(3, 0, 2, 499, 0);
+        x.market(4, 1, 1);
+        Due.are("9: one that traded keeps its time", Books.line(x, 0), 0, 4, 2);
     }
 
     private static void limitRefusals() {
@@ -134,6 +139,34 @@ public final class ComingTest {
         x.pegged(1, 1, 5, 2);
         x.limit(2, 0, 10, 501, 2);
         Due.are("9: pegged ones count, yet don't trade", Books.order(x, 8), 5, Books.GONE, 501, 0, 5);
+    }
+
+    private static void allOfOthers() {
+        UncrossedBook x = Books.opened();
+        x.limit(0, 1, 5, 500, 0);
+        x.limit(1, 1, 2, 501, 0);
+        x.pegged(2, 1, 50, 99);
+        x.rule(3);
+        x.limit(1, 0, 5, 501, 2);
+        Due.are("9: as much as others have", Books.order(x, 3), 0, Books.FILLED, 501, 0, 5);
+        x = Books.opened();
+        x.limit(0, 1, 5, 950, 0);
+        x.pegged(2, 1, 50, 99);
+        x.limit(1, 0, 6, 999, 2);
+        Due.are("9: not one without a price", Books.order(x, 2), 6, Books.GONE, 999, 0, 0);
+    }
+
+    private static void longest() {
+        UncrossedBook x = Books.opened();
+        for (int i = 0; i < 58; i++) {
+            x.limit(1, 1, 999, 1, 0);
+        }
+        x.hidden(0, 1, 999, 2, 1);
+        x.rule(2);
+        x.limit(1, 0, 999, 2, 0);
+        Due.are("9: 58 go, 999 trades", Books.order(x, 59), 0, Books.FILLED, 2, 0, 999);
+        Due.is("9: 58 go, 999 trades", x.trades(), 999);
+        Due.is("9: nothing rests", x.status(1), 0);
     }
 
     private static void hidden() {

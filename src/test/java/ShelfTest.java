@@ -168,8 +168,14 @@ public final class ShelfTest {
         Due.is("6: holds", x.holds(0), 1);
         Due.is("6: another", x.show(0, 0), 1);
         Due.is("6: holds", x.holds(0), 0);
-        x.row(1, 0, 3);
+        Books.putRow(x, 1, 0, 5, 6, 7);
+        Due.is("6: for a row", x.show(1, 1), 1);
+        Due.is("6: holds", x.holds(1), 1);
+        Due.is("6: the row is gone", x.element(1, 0), 0);
+        Due.is("6: it says", x.says(1, 1), 11);
+        Books.putRow(x, 1, 0, 5, 6, 7);
         Due.is("6: nothing", x.show(1, -1), 0);
+        Due.is("6: the row is gone", x.element(1, 0), 0);
         Due.is("6: holds nothing", x.holds(1), -1);
         Due.is("6: no row any more", x.set(1, 0, 1), -3);
         Due.is("6: shelf first", x.show(-1, -1), -1);

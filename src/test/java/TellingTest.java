@@ -13,6 +13,7 @@ public final class TellingTest {
         ahead();
         sweep();
         sweepRefusals();
+        sixtyRest();
         trades();
         trade();
         tradesKept();
@@ -108,6 +109,9 @@ public final class TellingTest {
         Due.is("24: sells", x.depth(1, 0, 0), 501);
         Due.is("24: sells", x.depth(1, 1, 0), 503);
         Due.is("24: sells", x.depth(1, 1, 1), 8);
+        x.limit(0, 1, 3, 1, 0);
+        Due.is("24: the edge 1", x.depth(1, 0, 0), 1);
+        Due.is("24: the edge 1", x.depth(1, 1, 0), 501);
     }
 
     private static void depthRefusals() {
@@ -177,6 +181,28 @@ public final class TellingTest {
         Due.is("26: below", x.sweep(0, -1), -16);
         Due.is("26: 100000", x.sweep(0, 100000), -16);
         Due.are("26: refusals", Books.refusals(x), 2, 0, 0, 0, 0, 3, 0);
+    }
+
+    private static void sixtyRest() {
+        UncrossedBook x = Books.opened();
+        for (int i = 0; i < 59; i++) {
+            x.limit(0, 1, 2, 500, 0);
+        }
+        Due.is("9: all of 59", x.limit(1, 0, 118, 500, 2), 59);
+        Due.is("9: they traded", x.trades(), 59);
+        x = new UncrossedBook();
+        for (int i = 0; i < 60; i++) {
+            x.limit(0, 1, 2, 500, 0);
+        }
+        Due.is("23: the last", x.rank(1, 59), 59);
+        Due.is("23: no more", x.rank(1, 60), -1);
+        Due.is("24: all", x.depth(1, 0, 1), 120);
+        Due.is("24: no second", x.depth(1, 1, 0), -1);
+        Due.is("25: the last", x.ahead(59), 118);
+        Due.is("34: all", x.image(), 60);
+        Due.is("35: all", x.restore(), 60);
+        Due.is("19: all", x.uncross(), 0);
+        Due.is("36: all", x.status(1), 60);
     }
 
     private static void trades() {

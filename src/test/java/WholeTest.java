@@ -193,6 +193,11 @@ public final class WholeTest {
         x.row(2, 1, 2);
         x.restore();
         Due.is("35: the order of that number", x.holds(0), 0);
+        x.limit(0, 0, 6, 501, 0);
+        x.show(0, 1);
+        x.restore();
+        Due.is("35: the first shelf too", x.holds(0), -1);
+        x.show(0, 0);
         Due.is("35: as it was", x.says(0, 0), 5);
         Due.is("35: nothing", x.holds(1), -1);
         Due.is("35: nothing", x.says(1, 0), -3);
