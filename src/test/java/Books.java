@@ -11,6 +11,7 @@ final class Books {
     static final int RESTING = 1;
     static final int FILLED = 2;
     static final int GONE = 3;
+    static final int NUMBER_OF_MARKET = UncrossedBook.NONE;
 
     private Books() {
     }
@@ -36,6 +37,49 @@ final class Books {
         for (int i = 0; i < n; i++) {
             x.limit(0, BUY, 1, 1, 1);
         }
+        return x;
+    }
+
+    /**
+     * OPEN, with some of everything. ORDERS: 0 LIMIT, 1 HIDDEN, 2 PEGGED (all
+     * RESTING), 3 STOP (WAITING), 4 LIMIT (GONE), 5 LIMIT (FILLED). SHELVES: 0
+     * bytes, 1 ORDER 1, 2 shorts, 3 NOTHING, 4 bytes (a TEXT of an ITEM), 5 ints
+     * (the first trade told), 6 bytes (a TEXT whose FAULT is 2), 7 NOTHING.
+     */
+    static UncrossedBook rich() {
+        UncrossedBook x = opened();
+        x.limit(0, SELL, 5, 510, 0);
+        x.hidden(1, BUY, 20, 490, 6);
+        x.market(2, SELL, 2);
+        x.pegged(3, BUY, 7, 1);
+        x.halt(4, BUY, 8, 600);
+        x.limit(5, BUY, 3, 480, 1);
+        x.limit(6, SELL, 1, 490, 0);
+        putRow(x, 0, 0, 5, 6, 7);
+        x.show(1, 1);
+        putRow(x, 2, 1, 8, 9, 10);
+        write(x, 4, 0, "a+1@1");
+        putRow(x, 5, 2, 1, NUMBER_OF_MARKET, 490, 2);
+        write(x, 6, 0, "a+x");
+        x.read(6);
+        x.rule(1);
+        x.seed(77);
+        return x;
+    }
+
+    /** The same, CLOSED again. */
+    static UncrossedBook richAuction() {
+        UncrossedBook x = rich();
+        x.close();
+        return x;
+    }
+
+    /** All 60 ORDERS are there: one RESTS on each SIDE, the others are GONE. */
+    static UncrossedBook full() {
+        UncrossedBook x = withOrders(58);
+        x.limit(1, BUY, 5, 400, 0);
+        x.limit(2, SELL, 5, 600, 0);
+        x.uncross();
         return x;
     }
 

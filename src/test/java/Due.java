@@ -2,8 +2,14 @@
 final class Due {
     private static int passed = 0;
     private static int failed = 0;
+    /** Said ahead of what fails; empty, where the calls say it themselves. */
+    private static String test = "";
 
     private Due() {
+    }
+
+    static void in(String name) {
+        test = name + ": ";
     }
 
     static void is(String call, long got, long want) {
@@ -11,7 +17,7 @@ final class Due {
             passed++;
         } else {
             failed++;
-            System.out.println(call + " answered " + got + ", due is " + want);
+            System.out.println(test + call + " answered " + got + ", due is " + want);
         }
     }
 
@@ -21,6 +27,14 @@ final class Due {
         for (int i = 0; i < Math.min(got.length, want.length); i++) {
             is(calls + ", number " + i, got[i], want[i]);
         }
+    }
+
+    static int failed() {
+        return failed;
+    }
+
+    static int asked() {
+        return passed + failed;
     }
 
     static void end() {
