@@ -113,6 +113,7 @@ public final class EdgeAuctionTest {
         crosses(nearest, "LAST 1 above them", 701, "a+5@700;b-5@300", 700, 5);
         crosses(nearest, "LAST 1", 1, "a+5@700;b-5@300", 300, 5);
         crosses(nearest, "LAST 999", 999, "a+5@700;b-5@300", 700, 5);
+        crosses(nearest, "VOLUME 1", 0, "a+1@700;b-1@300", 500, 1);
         // Those as good as one another stand side by side: no two are as near to LAST.
         crosses("of these the least.", "of two side by side, LAST the greater", 500, "a+5@500;b-5@499", 500, 5);
         crosses("of these the least.", "of two side by side, LAST the lesser", 499, "a+5@500;b-5@499", 499, 5);
@@ -220,6 +221,16 @@ public final class EdgeAuctionTest {
             x.uncross();
             Due.is("trades()", x.trades(), 2);
             Due.are("the last SELL", Books.order(x, 2), 3, Books.RESTING, 500, 3, 1);
+        });
+        PHASES.holds(again, "it is done: on both SIDES some REST that p is beyond", x -> {
+            x.limit(0, 0, 5, 500, 0);
+            x.limit(0, 0, 9, 499, 0);
+            x.limit(1, 1, 7, 500, 0);
+            x.limit(1, 1, 9, 501, 0);
+            Due.is("uncross()", x.uncross(), 5);
+            Due.is("trades()", x.trades(), 1);
+            Due.are("the BUY of 499", Books.order(x, 1), 9, Books.RESTING, 499, 9, 0);
+            Due.are("the SELL of 500", Books.order(x, 2), 2, Books.RESTING, 500, 2, 5);
         });
         for (int rule = 1; rule < 4; rule++) {
             int byRule = rule;

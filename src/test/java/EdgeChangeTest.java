@@ -287,6 +287,14 @@ public final class EdgeChangeTest {
             Due.is("crossing(0)", x.crossing(0), 0);
             Due.is("crossing(1)", x.crossing(1), 0);
         });
+        t.holds(come, "0 again, after it was something else", x -> {
+            x.limit(0, 0, 5, 500, 0);
+            x.limit(0, 1, 5, 500, 0);
+            Due.is("crossing(0)", x.crossing(0), 500);
+            x.cancel(1);
+            Due.is("crossing(0)", x.crossing(0), 0);
+            Due.is("crossing(1)", x.crossing(1), 0);
+        });
         t.holds(come, "just as much as would trade", x -> {
             x.limit(0, 0, 5, 500, 0);
             x.limit(0, 1, 1, 500, 0);

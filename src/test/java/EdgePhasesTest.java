@@ -515,6 +515,13 @@ public final class EdgePhasesTest {
             Due.is("6", x.orderOf(2, 4), Books.GONE);
             Due.is("5", x.orderOf(3, 4), Books.FILLED);
         });
+        allOf(ALL, "it is the 60th ORDER", () -> {
+            UncrossedBook x = Books.withOrders(57);
+            x.uncross();
+            x.limit(1, 1, 5, 500, 0);
+            x.limit(1, 1, 5, 500, 0);
+            return x;
+        }, 10, 500, Books.FILLED, 0, 10);
         PHASES.holds(ALL, "nothing else changes by it", Books::rich, x -> {
             x.limit(0, 0, 6, 510, 2);
             Due.is("trades()", x.trades(), 2);
@@ -562,6 +569,14 @@ public final class EdgePhasesTest {
             x.cancel(2);
             return x;
         }, 26, 999, Books.GONE, 26, 0);
+        allOf(ALL, "one that came behind THE IMAGE doesn't, when that was restored", () -> {
+            UncrossedBook x = sells();
+            x.image();
+            x.limit(1, 1, 9, 500, 0);
+            x.limit(1, 1, 9, 500, 0);
+            x.restore();
+            return x;
+        }, 31, 999, Books.GONE, 31, 0);
         allOf(ALL, "its own SIDE doesn't", () -> {
             UncrossedBook x = sells();
             x.limit(1, 0, 9, 499, 0);

@@ -89,6 +89,8 @@ public final class EdgeShelvesTest {
             Due.is("row(1, 0, 1)", x.row(1, 0, 1), 1);
             Due.is("holds(1)", x.holds(1), 100);
             Due.is("says(1, 0)", x.says(1, 0), -2);
+            Due.is("set(1, 0, 4)", x.set(1, 0, 4), 1);
+            Due.is("copy(1, 0, 0, 0, 1)", x.copy(1, 0, 0, 0, 1), 1);
         });
     }
 
@@ -291,6 +293,8 @@ public final class EdgeShelvesTest {
             Due.is("show(0, 0)", x.show(0, 0), 1);
             Due.is("holds(0)", x.holds(0), 0);
             Due.is("element(0, 0)", x.element(0, 0), 0);
+            Due.is("set(0, 0, 1)", x.set(0, 0, 1), -2);
+            Due.is("says(0, 1)", x.says(0, 1), 510);
         });
         t.refuses("-1.", "SHELF -1", Books::rich, x -> x.show(-1, 0), -1);
         t.refuses("-1.", "SHELF 8", Books::rich, x -> x.show(8, 0), -1);

@@ -208,6 +208,22 @@ public final class EdgeWholeTest {
             Due.is("position(0)", x.position(0), 1000000);
             Due.is("cash(0)", x.cash(0), 1000000000);
         });
+        t.holds(all, "what came since is neither in the RANK nor trades", Books::opened, x -> {
+            x.image();
+            x.limit(0, 0, 5, 500, 0);
+            x.halt(0, 0, 5, 500);
+            x.restore();
+            Due.is("rank(0, 0)", x.rank(0, 0), -1);
+            Due.is("depth(0, 0, 0)", x.depth(0, 0, 0), -1);
+            Due.is("sweep(1, 1)", x.sweep(1, 1), -1);
+            Due.is("market(1, 1, 5)", x.market(1, 1, 5), 0);
+            Due.is("status(1)", x.status(1), 0);
+            Due.is("status(2)", x.status(2), 0);
+            Due.is("cancel(0)", x.cancel(0), -1);
+            x.close();
+            x.limit(1, 1, 5, 500, 0);
+            Due.is("crossing(1)", x.crossing(1), 0);
+        });
         t.holds(all, "an ORDER's earlier use of a number is forgotten", x -> {
             x.image();
             x.hidden(7, 1, 50, 500, 9);
